@@ -75,6 +75,7 @@ public final class CircleCells {
     }
 
     public int cell(int cell, int i) throws NoSuchElementException, IndexOutOfBoundsException {
+        refresh();
         requireCell(cell);
         int count = mosaic.sideCount(cell);
         if (i == HOW_MANY) {
@@ -85,6 +86,7 @@ public final class CircleCells {
     }
 
     public int beside(int cell, int i) throws NoSuchElementException, IndexOutOfBoundsException {
+        refresh();
         requireCell(cell);
         requireIndex(i, mosaic.sideCount(cell));
         return mosaic.across(cell, i);
@@ -94,6 +96,7 @@ public final class CircleCells {
         if (what < 0 || what > 2) {
             throw new IllegalArgumentException("what is 0, 1 or 2");
         }
+        refresh();
         requireCell(cell);
         return mosaic.circleOf(cell).middle(what);
     }
@@ -134,7 +137,6 @@ public final class CircleCells {
     }
 
     private void requireCell(int cell) {
-        refresh();
         if (cell < 0 || cell >= mosaic.cellCount) {
             throw new NoSuchElementException("no such cell");
         }
@@ -146,7 +148,7 @@ public final class CircleCells {
         }
     }
 
-    // Sites often come many at a time, so the cells wait until one asks for them.
+    // Changes often come many at a time, so the cells wait until one asks for them.
     private void refresh() {
         if (stale) {
             mosaic.build();
