@@ -8,9 +8,18 @@ import java.util.TreeSet;
 /** The public face is the document's, and no member but the nested classes is seen beyond it. */
 public final class FaceTest {
     private static final Set<String> METHODS = new TreeSet<>(Set.of(
-        "int site(int, int)", "void remove(int)", "void move(int, int, int)", "void clear()",
-        "int where(int, int)", "int cells()", "int cell(int, int)", "int beside(int, int)",
-        "long centre(int, int)", "int hull(int)", "int around(int, int)", "int nearest(int, int)"));
+        "int site(int, int) throws IllegalArgumentException, IllegalStateException",
+        "void remove(int) throws IllegalArgumentException",
+        "void move(int, int, int) throws IllegalArgumentException",
+        "void clear()",
+        "int where(int, int) throws IllegalArgumentException",
+        "int cells()",
+        "int cell(int, int) throws NoSuchElementException, IndexOutOfBoundsException",
+        "int beside(int, int) throws NoSuchElementException, IndexOutOfBoundsException",
+        "long centre(int, int) throws NoSuchElementException, IllegalArgumentException",
+        "int hull(int) throws IndexOutOfBoundsException",
+        "int around(int, int) throws IllegalArgumentException",
+        "int nearest(int, int) throws IllegalArgumentException, IllegalStateException"));
 
     public static void main(String[] args) {
         Class<?> face = CircleCells.class;
@@ -50,12 +59,17 @@ public final class FaceTest {
     }
 
     private static String shape(Method m) {
-        StringBuilder text = new StringBuilder(m.getReturnType() + " " + m.getName() + "(");
-        Class<?>[] takes = m.getParameterTypes();
-        for (int i = 0; i < takes.length; i++) {
-            text.append(i == 0 ? "" : ", ").append(takes[i]);
+        String thrown = listed(m.getExceptionTypes());
+        return m.getReturnType() + " " + m.getName() + "(" + listed(m.getParameterTypes()) + ")"
+            + (thrown.isEmpty() ? "" : " throws " + thrown);
+    }
+
+    private static String listed(Class<?>[] types) {
+        StringBuilder text = new StringBuilder();
+        for (int i = 0; i < types.length; i++) {
+            text.append(i == 0 ? "" : ", ").append(types[i].getSimpleName());
         }
-        return text.append(")").toString();
+        return text.toString();
     }
 
     private static void requirePrivate(String name, int modifiers) {
